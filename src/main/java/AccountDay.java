@@ -735,7 +735,13 @@ public final class AccountDay {
         static final int PENCE = 2;
 
         // the columns of PASSES and of DELIVERIES, as pass() and delivery() number them
-        static final int PASS_COLUMNS = 7;
+        static final int PASS_STOCK = 0;
+        static final int PASSED_BY = 1;
+        static final int PASSED_TO = 2;
+        static final int PASS_NAME = 3;
+        static final int PASS_SHARES = 4;
+        static final int PASS_MINUTE = 5;
+        static final int PASS_LATE = 6;
         static final int DELIVERY_STOCK = 0;
         static final int DELIVERED_BY = 1;
         static final int DELIVERY_NAME = 2;
@@ -759,7 +765,7 @@ public final class AccountDay {
         final Rules rules = new Rules();
         final Table options = new Table(OPTIONS_MOST, OPTION_STATE + 1);
         final Table dividends = new Table(DIVIDENDS_MOST, PENCE + 1);
-        final Table passes = new Table(PASSES_NOTED, PASS_COLUMNS);
+        final Table passes = new Table(PASSES_NOTED, PASS_LATE + 1);
         final Table deliveries = new Table(DELIVERIES_NOTED, DELIVERY_LATE + 1);
         final long[] outcome = new long[MEN_MOST * OUTCOMES];
         boolean wasNamed;
@@ -1553,16 +1559,16 @@ public final class AccountDay {
             }
         }
 
-        private void line(int itsName, int itsHolder, int n, int at, int byWhom) {
-            if (waiting < RING) {
-                int slot = (head + waiting) & (RING - 1);
-                name[slot] = itsName;
-                holder[slot] = itsHolder;
-                shares[slot] = n;
-                minute[slot] = at;
-                late[slot] = byWhom;
-                waiting++;
-            }
+        /** Behind the row; the TICKET's slot. */
+        private int line(int itsName, int itsHolder, int n, int at, int byWhom) {
+            int slot = (head + waiting) & (RING - 1);
+            name[slot] = itsName;
+            holder[slot] = itsHolder;
+            shares[slot] = n;
+            minute[slot] = at;
+            late[slot] = byWhom;
+            waiting++;
+            return slot;
         }
 
         private void takeFirst(Book book, int stock, int hour) {
@@ -1602,30 +1608,24 @@ public final class AccountDay {
             for (int b = 0; b < BARGAINS_MOST && wanted > 0; b++) {
                 int n = Math.min(left[b], wanted);
                 if (n > 0 && book.bargains.at(b, Bargains.BUYER) == has) {
-                    int seller = book.bargains.at(b, Bargains.SELLER);
                     left[b] -= n;
                     wanted -= n;
-                    notePass(book.passes, stock, has, seller);
-                    line(name[slot], seller, n, comes, byWhom);
-                    noteTicket(book.passes, name[slot], n, comes, byWhom);
+                    int ticket = line(name[slot], book.bargains.at(b, Bargains.SELLER), n, comes, byWhom);
+                    notePass(book.passes, stock, has, ticket);
                 }
             }
         }
 
-        private void notePass(Table passes, int stock, int from, int to) {
+        private void notePass(Table passes, int stock, int from, int ticket) {
             int i = passes.size;
             passes.size++;
-            passes.put(i, 0, stock);
-            passes.put(i, 1, from);
-            passes.put(i, 2, to);
-        }
-
-        private void noteTicket(Table passes, int itsName, int n, int comes, int byWhom) {
-            int i = passes.size - 1;
-            passes.put(i, 3, itsName);
-            passes.put(i, 4, n);
-            passes.put(i, 5, comes);
-            passes.put(i, 6, byWhom);
+            passes.put(i, Book.PASS_STOCK, stock);
+            passes.put(i, Book.PASSED_BY, from);
+            passes.put(i, Book.PASSED_TO, holder[ticket]);
+            passes.put(i, Book.PASS_NAME, name[ticket]);
+            passes.put(i, Book.PASS_SHARES, shares[ticket]);
+            passes.put(i, Book.PASS_MINUTE, minute[ticket]);
+            passes.put(i, Book.PASS_LATE, late[ticket]);
         }
     }
 
@@ -1759,7 +1759,9 @@ public final class AccountDay {
                 System.arraycopy(paid, 0, paidBefore, 0, MEN_MOST * WIDTH);
                 changes = false;
                 for (int man = 0; man < men.size; man++) {
-                    changes = payOf(man, men.coin[man] + sumTo(paidBefore, man)) || changes;
+                    if (dues[man] > 0) {
+                        changes = payOf(man, men.coin[man] + sumTo(paidBefore, man)) || changes;
+                    }
                 }
             }
         }

@@ -189,9 +189,9 @@ public final class ModelTest {
             case 5: case 6: someBargain(1); break;
             case 7: someRing(); break;
             case 8: call("option", men(), stock(), 10000 * shares() + price(), 10000 * (1 + below(41)) + below(300)); break;
-            case 9: call("declare", below(21) - below(2)); break;
+            case 9: call("declare", below(model.s.options.size() + 1) - (below(9) == 0 ? 1 : 0)); break;
             case 10: call("dividend", stock(), model.s.day + below(20) - 1, below(12) == 0 ? wild() : 1 + below(20)); break;
-            case 11: if (below(3) == 0) someRule(); break;
+            case 11: if (below(3) == 0) someRule(); else if (below(30) == 0) burst(); break;
             case 12: call("hold", man(), stock(), below(20) == 0 ? wild() : below(30)); break;
             case 13: call("asks", man(), stock(), below(20) == 0 ? wild() : below(100)); break;
             case 14: call("lend", man(), below(20) == 0 ? wild() : below(500)); break;
@@ -204,6 +204,17 @@ public final class ModelTest {
             case 22: if (below(8) == 0) call("man", below(3000), below(100)); break;
             case 23: if (below(8) == 0) call("stock"); break;
             default: toNextPlace();
+        }
+    }
+
+    /** Beyond what there is room for. */
+    private void burst() throws ReflectiveOperationException {
+        int kind = below(4);
+        for (int i = 0; i < 31; i++) {
+            if (kind == 0) call("feed", 0x20312b31, 4);
+            if (kind == 1) call("dividend", stock(), model.s.day + below(9), 1 + below(9));
+            if (kind == 2) call("option", men(), stock(), 10000 * (1 + below(9)) + 50, 10000 * (1 + below(40)));
+            if (kind == 3) call("run", 28);
         }
     }
 

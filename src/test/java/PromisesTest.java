@@ -91,6 +91,7 @@ public final class PromisesTest {
         due(4, "stock below 0", x.hold(1, -1, 1), BEYOND);
         due(5, "lend", x.lend(0, 100000000), 1);
         due(5, "lent", x.coin(0, 0), 100000010);
+        due(5, "nothing", x.lend(0, 0), 1);
         due(5, "too much", x.lend(0, 100000001), NO);
         due(5, "below 0", x.lend(0, -1), NO);
         due(5, "no such man", x.lend(-1, -1), BEYOND);
@@ -435,6 +436,8 @@ public final class PromisesTest {
         due(23, "another word", fault("rate foo"), 5);
         due(23, "a longer word", fault("rate stocks"), 5);
         due(23, "a part of a word", fault("rat 1"), 0);
+        due(23, "all letters are a word's", fault("ratez 1"), 0);
+        due(23, "a letter behind a number", fault("rate 1a"), 6);
         due(23, "ends with blanks", fault("rate 1 +  "), 10);
         due(23, "two ones", fault("rate 1 1"), 7);
         due(23, "5 digits", rule(exchange(1, 0, 0, 1), "rate 99999"), 0);
@@ -796,6 +799,18 @@ public final class PromisesTest {
         due(30, "ten men", x.least(0, 0), 7);
         stands(x, 1011, 0, 1, 1);
         due(30, "twelve men", x.least(0, 0), KIND);
+        stands(x, 110, 0, 1, 1);
+        due(30, "eleven men", x.least(0, 0), KIND);
+        stands(x, 11, 0, 4, 1);
+        stands(x, 1101, 0, 5, 1);
+        due(30, "ten men again", x.least(0, 0) > 0 ? 1 : 0, 1);
+        x.lay(3);
+        x.set(0, 12);
+        due(31, "a thirteenth man", x.judge(0, 0), NONE);
+        x.set(0, 0);
+        x.set(1, 12);
+        x.set(2, 1);
+        due(31, "to a thirteenth man", x.judge(0, 0), NONE);
         due(30, "twelve men in the next", x.least(0, 1), 0);
         x = exchange(3, 0, 0, 1);
         stands(x, 1, 0, 5, 1);
@@ -811,6 +826,7 @@ public final class PromisesTest {
         due(31, "too few", judged(x, 0, 1, 5), NONE);
         due(31, "too many", judged(x, 0, 1, 6, 0, 2, 3), NONE);
         due(31, "gave and got", judged(x, 0, 1, 8, 1, 2, 3), NONE);
+        due(31, "the first gave and got", gaveAndGot(), NONE);
         due(31, "himself", judged(x, 0, 1, 5, 0, 2, 3, 1, 1, 1), NONE);
         due(31, "none of it", judged(x, 0, 1, 5, 0, 2, 3, 0, 1, 0), NONE);
         due(31, "below 0", judged(x, 0, 1, 6, 0, 2, 3, 0, 1, -1), NONE);
@@ -820,6 +836,13 @@ public final class PromisesTest {
         due(31, "wrapping", judged(x, 0, 1, Integer.MAX_VALUE, 0, 1, Integer.MAX_VALUE, 0, 1, 7, 0, 2, 3), NONE);
         x.lay(0);
         due(31, "nothing is whole", x.judge(0, 1), 0);
+    }
+
+    private static int gaveAndGot() {
+        AccountDay x = exchange(3, 0, 0, 1);
+        stands(x, 1, 0, 5, 1);
+        stands(x, 201, 0, 3, 1);
+        return judged(x, 2, 0, 3, 0, 1, 8);
     }
 
     private static int judged(AccountDay x, int... row) {
