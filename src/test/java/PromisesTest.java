@@ -1,60 +1,5 @@
 /** Each promise by hand: ordinary inputs, the edges that the document names, and wrong inputs. */
-public final class PromisesTest {
-    private static final int NONE = -1, MISSING = -2, BEYOND = -3, BELOW = -4, KIND = -5, COPY = -6, NO = -7, FULL = -8;
-    private static int asked = 0;
-    private static int wrong = 0;
-
-    private static void due(int promise, String what, long got, long want) {
-        asked++;
-        if (got != want) {
-            wrong++;
-            System.out.println("promise " + promise + ": " + what + " answered " + got + ", due is " + want);
-        }
-    }
-
-    private static AccountDay exchange(int men, int coin, int pace, int stocks) {
-        AccountDay x = new AccountDay();
-        for (int i = 0; i < men; i++) x.man(coin, pace);
-        for (int i = 0; i < stocks; i++) x.stock();
-        return x;
-    }
-
-    /** A BARGAIN that both marked. */
-    private static int stands(AccountDay x, int men, int stock, int shares, int price) {
-        int b = x.bargain(men, stock, shares, price);
-        x.mark(b, men / 100);
-        x.mark(b, men % 100);
-        return b;
-    }
-
-    private static void feed(AccountDay x, String text) {
-        for (int i = 0; i < text.length(); i++) x.feed(text.charAt(i), 1);
-    }
-
-    private static int rule(AccountDay x, String text, int from, int to) {
-        x.wipe();
-        feed(x, text);
-        return x.rule(from, to);
-    }
-
-    private static int rule(AccountDay x, String text) {
-        return rule(x, text, 0, 1000);
-    }
-
-    private static int says(String text) {
-        AccountDay x = exchange(3, 10, 0, 2);
-        rule(x, text);
-        return x.says(0, 1);
-    }
-
-    private static int fault(String text) {
-        return -10 - rule(exchange(1, 0, 0, 1), text);
-    }
-
-    private static void toPlace(AccountDay x, int place) {
-        while (x.count(1) != place) x.run(1);
-    }
-
+public final class PromisesTest extends Bench {
     private static void newObject() {
         AccountDay x = new AccountDay();
         for (int what = 0; what < 16; what++) due(1, "count(" + what + ")", x.count(what), 0);
@@ -845,12 +790,6 @@ public final class PromisesTest {
         return judged(x, 2, 0, 3, 0, 1, 8);
     }
 
-    private static int judged(AccountDay x, int... row) {
-        x.lay(row.length);
-        for (int i = 0; i < row.length; i++) x.set(i, row[i]);
-        return x.judge(0, 0);
-    }
-
     private static void corners() {
         AccountDay x = exchange(5, 0, 0, 1);
         x.hold(1, 0, 4);
@@ -1044,7 +983,6 @@ public final class PromisesTest {
         images();
         rows();
         statuses();
-        System.out.println("PromisesTest: " + asked + " answers, " + wrong + " wrong");
-        if (wrong != 0) System.exit(1);
+        end("PromisesTest");
     }
 }
