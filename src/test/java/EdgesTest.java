@@ -272,6 +272,8 @@ public final class EdgesTest extends Bench {
         due(16, "the most MADE", putOffPrice(9999, ""), 9999);
         due(16, "the most MADE and more", putOffPrice(9999, "2"), 9999);
         due(16, "the E wraps", putOffPrice(200, "65536*65536+50"), 201);
+        due(16, "by 10000, not by less", putOffPrice(200, "49999"), 1199);
+        due(16, "nor by more", putOffPrice(200, "50000"), 1200);
     }
 
     private static void putOffAtTheEdges() {
@@ -292,6 +294,24 @@ public final class EdgesTest extends Bench {
         due(16, "he buys for the next", x.of(3, 1) * 10 + x.of(3, 6), 11);
         due(9, "his NET in this one", x.has(1, 0, 1), 3 - 8);
         due(9, "in the next", x.has(1, 0, 2), 8);
+        x = exchange(2, 1000, 0, 1);
+        x.bargain(1, 0, 1, 9);
+        stands(x, 1, 0, 1, 9);
+        x.run(10);
+        x.clear(0);
+        due(16, "0 is free", x.putOff(100, 0, 8), 2);
+        due(16, "it is the first", x.of(0, 6), 0);
+    }
+
+    private static void aNumberThatWasPutOff() {
+        AccountDay x = madeUp(1);
+        x.lend(1, 9999);
+        x.putOff(1, 0, 1);
+        x.run(3);
+        due(13, "SETTLED", x.clear(1), SETTLED);
+        due(11, "its number again", x.bargain(1, 0, 1, 1), 1);
+        due(14, "not made to PUT OFF", x.of(1, 10), 0);
+        due(14, "the other one was", x.of(2, 10), 1);
     }
 
     private static void optionsAtTheEdges() {
@@ -426,6 +446,23 @@ public final class EdgesTest extends Bench {
         due(26, "till then", x.coin(0, 2), 36);
         x.run(1);
         due(26, "no longer", x.coin(0, 2), 0);
+    }
+
+    private static void extraOfTheFirstAndTheLast() {
+        AccountDay x = exchange(12, 9999, 0, 1);
+        x.hold(11, 0, 4);
+        x.hold(0, 0, 4);
+        stands(x, 1100, 0, 4, 10);
+        stands(x, 11, 0, 4, 10);
+        stands(x, 1100, 0, 2, 10);
+        x.run(1);
+        x.dividend(0, 1, 5);
+        x.run(1);
+        due(8, "11 owes 0", x.coin(11, 2), 30);
+        due(8, "0 owes 11", x.coin(0, 2), 20);
+        x.run(11);
+        due(29, "the rest, and 20 for the SHARES the other way", x.settled(11, 0), 0);
+        due(29, "the rest of that", x.settled(0, 0), 20 - 10);
     }
 
     private static void dividendsOfHolders() {
@@ -643,6 +680,22 @@ public final class EdgesTest extends Bench {
         x.run(12);
         seesPasses(x, new int[][] {{0, 2, 1, 2, 2, 0, NONE}, {2, 1, 0, 1, 1, 0, NONE}});
         seesDeliveries(x, new int[][] {{0, 1, 2, 2, 0, NONE}, {2, 0, 1, 1, 0, NONE}});
+    }
+
+    /** 1's other BARGAINS as BUYER have lesser numbers, but are in another STOCK, VOID, or for the next ACCOUNT. */
+    private static void leftOfWhichBargains() {
+        AccountDay x = exchange(3, 99999, 0, 2);
+        x.bargain(201, 0, 5, 10);
+        x.bargain(201, 0, 5, 10);
+        stands(x, 201, 1, 5, 10);
+        stands(x, 1, 0, 3, 10);
+        x.run(10);
+        x.clear(0);
+        due(11, "for the next", x.of(stands(x, 201, 0, 5, 10), 6), 1);
+        x.run(2);
+        due(14, "VOID", x.of(1, 7), VOID);
+        seesPasses(x, new int[][] {{0, 1, 0, 1, 3, 0, NONE}, {1, 1, 2, 1, 5, 0, NONE}});
+        seesDeliveries(x, new int[][] {{0, 0, 1, 3, 0, NONE}, {1, 2, 1, 5, 0, NONE}});
     }
 
     /** 0 sells to 1, 1 to 2, 2 to 3: PACES 0, 20, 30, 40; the HOUR is told. Who is LATE with each PASS. */
@@ -953,6 +1006,22 @@ public final class EdgesTest extends Bench {
         due(14, "the ACCOUNT's own is SETTLED", x.of(0, 7), SETTLED);
     }
 
+    private static void manAndBargain0() {
+        AccountDay x = exchange(3, 0, 0, 1);
+        x.hold(1, 0, 1);
+        x.bargain(1, 0, 1, 1);
+        stands(x, 100, 0, 1, 50);
+        x.option(2, 0, 10001, 400000);
+        x.run(10);
+        x.clear(0);
+        due(11, "BARGAIN 0, for the next ACCOUNT", stands(x, 2, 0, 2, 20), 0);
+        x.run(3);
+        due(7, "MAN 0 is DOWN", x.look(0, 0), 0);
+        due(14, "BARGAIN 0 is VOID", x.of(0, 7), VOID);
+        due(8, "LOST by it", x.coin(2, 1), 2 * 30);
+        due(19, "his OPTION is OVER", x.optionOf(0, 6), 2);
+    }
+
     private static void lostAddsUp() {
         AccountDay x = exchange(4, 0, 0, 1);
         x.hold(0, 0, 5);
@@ -993,6 +1062,13 @@ public final class EdgesTest extends Bench {
         x.run(14);
         for (int what = 0; what < 5; what++) due(29, "the latest had none, " + what, x.settled(1, what), 0);
         due(44, "but it was", x.status(MISSING), 0);
+        x = boughtIn(1, "");
+        due(29, "BOUGHT IN", x.settled(0, 4), 3);
+        stands(x, 100, 0, 1, 10);
+        stands(x, 201, 0, 3, 10);
+        x.run(14);
+        due(29, "nothing of the one before", x.settled(0, 4), 0);
+        due(29, "its own", x.settled(2, 4), 1);
     }
 
     // ---- 6: RULES
@@ -1187,6 +1263,9 @@ public final class EdgesTest extends Bench {
         due(23, "12 34", fault("rate 12 34"), 8);
         due(23, "days", fault("rate days"), 5);
         due(23, "da", fault("rate da"), 5);
+        String[] opened = {"not ", "-", "(", "1 and ", "1+", "1 if ", "1 "};
+        for (String o : opened) due(23, "an unknown WORD behind " + o, fault("rate " + o + "foo 1"), 5 + o.length());
+        due(23, "and first", fault("foo rate 1"), 0);
         due(23, "many letters", fault("rate " + "a".repeat(115)), 5);
         due(23, "blanks all over", isRule("  rate  (  1  +  2  )  ") ? 1 : 0, 1);
         due(23, "no blanks", isRule("rate(1+2)if(not(1))or 0") ? 1 : 0, 1);
@@ -1339,6 +1418,8 @@ public final class EdgesTest extends Bench {
         due(31, "nothing", judged(x), NONE);
         due(31, "two more who give and get", judged(x, 1, 0, 20, 2, 3, 5), NONE);
         due(31, "and back", judged(x, 1, 0, 20, 2, 3, 5, 3, 2, 5), NONE);
+        due(31, "gave one of what he got", judged(nets(20, -21, 1), 1, 0, 21, 0, 2, 1), NONE);
+        due(31, "got one of what he gave", judged(nets(-20, 21, -1), 2, 0, 1, 0, 1, 21), NONE);
         due(44, "a ROW that isn't GOOD is no refusal", x.status(NO) + x.status(BEYOND) + x.status(KIND), 0);
         x.lay(0);
         due(31, "nothing is whole in another STOCK", x.judge(1, 0), 0);
@@ -1420,6 +1501,10 @@ public final class EdgesTest extends Bench {
         stands(just, 100, 0, 10, 10);
         just.asks(0, 0, 7);
         due(33, "just enough", just.squeeze(0, 0), 70);
+        x = cornered(1);
+        x.asks(0, 0, 8);
+        x.asks(2, 0, 5);
+        due(33, "one SHARE of the cheapest", x.squeeze(0, 0), 5 + 5 * 8);
     }
 
     /** 1 buys of 0 for 100 on DAY 3 with so much COIN. */
@@ -1494,6 +1579,16 @@ public final class EdgesTest extends Bench {
         x = exchange(12, 0, 0, 1);
         for (int m = 1; m < 12; m++) stands(x, m, 0, 1, 1);
         due(35, "eleven", x.clearing(0), 11);
+        x = exchange(3, 5, 0, 1);
+        stands(x, 100, 0, 6, 1);
+        due(35, "MAN 0", x.clearing(0), 1);
+        stands(x, 1, 0, 4, 1);
+        stands(x, 102, 0, 4, 1);
+        due(35, "MAN 0 has 5, pays 6 and gets 4; 1 pays 4 and gets 6 and 4", x.clearing(0), 0);
+        stands(x, 100, 0, 4, 1);
+        due(35, "MAN 0 pays 10 and gets 4", x.clearing(0), 1);
+        stands(x, 2, 0, 1, 1);
+        due(35, "MAN 0 gets one more", x.clearing(0), 0);
     }
 
     // ---- counts, images, rows, status
@@ -1528,6 +1623,45 @@ public final class EdgesTest extends Bench {
         x.run(28);
         due(37, "another one", x.image(), 41);
         due(38, "takes its place", x.back(), 41);
+    }
+
+    /** DAY 14, behind a SETTLING: of 12 MEN 9 is DOWN, 11 LOST by it, 10 owes 11 EXTRA. */
+    private static AccountDay crowd() {
+        AccountDay x = exchange(12, 1000, 7, 5);
+        x.hold(10, 4, 7);
+        x.hold(11, 4, 60);
+        x.asks(11, 4, 9);
+        stands(x, 1109, 4, 50, 90);
+        x.run(12);
+        stands(x, 911, 4, 3, 10);
+        stands(x, 1011, 4, 50, 200);
+        x.run(1);
+        x.dividend(4, 13, 3);
+        x.run(1);
+        x.image();
+        return x;
+    }
+
+    private static void imagesKeepTheLastMan() {
+        AccountDay x = crowd();
+        due(7, "9 is DOWN", x.look(9, 0), 0);
+        due(8, "11 LOST", x.coin(11, 1), 240);
+        due(8, "10 owes EXTRA", x.coin(10, 2), 150);
+        due(29, "11 got", x.settled(11, 2), 1000);
+        java.util.List<Long> before = allOf(EdgesTest::crowd);
+        java.util.List<Long> after = allOf(() -> {
+            AccountDay y = crowd();
+            y.asks(11, 4, 3);
+            y.hold(11, 4, 1);
+            y.run(11);
+            stands(y, 1108, 4, 1, 1);
+            y.run(3);
+            due(7, "11 is DOWN, too", y.look(11, 0), 0);
+            due(8, "8 has LOST by it", y.coin(8, 1), 199);
+            y.back();
+            return y;
+        });
+        due(38, "all is again as it was kept", before.equals(after) ? 1 : 0, 1);
     }
 
     private static void disturb(AccountDay x) {
@@ -1691,6 +1825,7 @@ public final class EdgesTest extends Bench {
         knewAtTheEdges();
         thePriceToPutOff();
         putOffAtTheEdges();
+        aNumberThatWasPutOff();
         optionsAtTheEdges();
         theLastDayOfAnOption();
         declaredIntoAnAccount();
@@ -1700,6 +1835,7 @@ public final class EdgesTest extends Bench {
         goodAtTheEdges();
         goodIsAskedOfEach();
         dividendsAtTheEdges();
+        extraOfTheFirstAndTheLast();
         dividendsOfHolders();
         goodStandsAheadOfDividends();
         divAtTheEdges();
@@ -1715,6 +1851,7 @@ public final class EdgesTest extends Bench {
         netsAtTheEdges();
         splitTickets();
         stockByStock();
+        leftOfWhichBargains();
         theHour();
         theHourWithoutARule();
         threeHundredPasses();
@@ -1732,6 +1869,7 @@ public final class EdgesTest extends Bench {
         partsAreCut();
         partsDoNotWrap();
         whatIsVoidByOneWhoIsDown();
+        manAndBargain0();
         lostAddsUp();
         optionsOfOneWhoIsDown();
         whatTheLatestSettlingTells();
@@ -1773,6 +1911,7 @@ public final class EdgesTest extends Bench {
     private static void images() {
         counts();
         imagesKeepAll();
+        imagesKeepTheLastMan();
         imagesOfAnEmptyExchange();
         whatAnImageDoesNotKeep();
         rulesComeBack();
