@@ -1,4 +1,5 @@
 import java.io.IOException;
+import java.lang.reflect.Array;
 import java.lang.reflect.Constructor;
 import java.lang.reflect.Field;
 import java.lang.reflect.Member;
@@ -7,6 +8,8 @@ import java.lang.reflect.Modifier;
 import java.nio.file.Files;
 import java.nio.file.Path;
 import java.util.Arrays;
+import java.util.IdentityHashMap;
+import java.util.Map;
 import java.util.Set;
 import java.util.TreeSet;
 import java.util.regex.Matcher;
@@ -108,9 +111,46 @@ public final class FormTest {
         }
     }
 
+    /** All calls of a run live in one room: what an exchange with an image holds, and that calls add nothing to it. */
+    private static void room() throws IllegalAccessException {
+        AccountDay x = new AccountDay();
+        x.image();
+        long[] before = counted(x);
+        if (before[0] > 200 || before[1] > 20000) complain("objects: " + before[0] + ", fields and elements: " + before[1]);
+        AccountDay busy = Bench.settledOnce();
+        busy.image();
+        busy.run(28);
+        busy.back();
+        if (!Arrays.equals(counted(busy), before)) complain("calls make what stays: " + Arrays.toString(counted(busy)));
+    }
+
+    private static long[] counted(Object whole) throws IllegalAccessException {
+        Map<Object, Boolean> met = new IdentityHashMap<>();
+        long[] counts = new long[2];
+        count(whole, met, counts);
+        return counts;
+    }
+
+    private static void count(Object one, Map<Object, Boolean> met, long[] counts) throws IllegalAccessException {
+        if (one == null || met.put(one, true) != null) return;
+        counts[0]++;
+        if (one.getClass().isArray()) {
+            counts[1] += Array.getLength(one);
+            return;
+        }
+        for (Field f : one.getClass().getDeclaredFields()) {
+            if (Modifier.isStatic(f.getModifiers())) continue;
+            counts[1]++;
+            if (f.getType().isPrimitive()) continue;
+            f.setAccessible(true);
+            count(f.get(one), met, counts);
+        }
+    }
+
     public static void main(String[] args) throws IOException, IllegalAccessException {
         face();
         insides();
+        room();
         source(args.length > 0 ? args[0] : "src/main/java/AccountDay.java");
         System.out.println("FormTest: " + wrong + " wrong");
         if (wrong != 0) System.exit(1);
