@@ -682,6 +682,17 @@ public final class EdgesTest extends Bench {
         seesDeliveries(x, new int[][] {{0, 1, 2, 2, 0, NONE}, {2, 0, 1, 1, 0, NONE}});
     }
 
+    /** In STOCK 1 all NETS are 0: its row is empty, and nothing of STOCK 0's TICKETS is passed on there. */
+    private static void anEmptyRowBehindAnother() {
+        AccountDay x = exchange(3, 99999, 4, 2);
+        stands(x, 1, 0, 3, 10);
+        stands(x, 1, 1, 5, 10);
+        stands(x, 100, 1, 5, 10);
+        x.run(12);
+        seesPasses(x, new int[][] {{0, 1, 0, 1, 3, 4, NONE}});
+        seesDeliveries(x, new int[][] {{0, 0, 1, 3, 4, NONE}});
+    }
+
     /** 1's other BARGAINS as BUYER have lesser numbers, but are in another STOCK, VOID, or for the next ACCOUNT. */
     private static void leftOfWhichBargains() {
         AccountDay x = exchange(3, 99999, 0, 2);
@@ -746,13 +757,16 @@ public final class EdgesTest extends Bench {
     /** 0 and 1 pass one SHARE's NAME around: 300 of the PASSES are noted, all are made. */
     private static void threeHundredPasses() {
         for (int rounds = 149; rounds <= 150; rounds++) {
-            AccountDay x = exchange(4, 999999, 1, 1);
+            AccountDay x = exchange(4, 999999, 1, 2);
             for (int left = rounds; left > 0; left -= 99) {
                 stands(x, 1, 0, Math.min(left, 99), 10);
                 stands(x, 100, 0, Math.min(left, 99), 10);
             }
             stands(x, 201, 0, 1, 10);
             stands(x, 103, 0, 1, 10);
+            // where all NETS are 0 nothing goes around
+            stands(x, 1, 1, 9, 10);
+            stands(x, 100, 1, 9, 10);
             x.run(12);
             // 3 passes it to 1, it goes around between 1 and 0, then 1 passes it to 2
             int all = 2 + 2 * rounds;
@@ -1851,6 +1865,7 @@ public final class EdgesTest extends Bench {
         netsAtTheEdges();
         splitTickets();
         stockByStock();
+        anEmptyRowBehindAnother();
         leftOfWhichBargains();
         theHour();
         theHourWithoutARule();
