@@ -97,6 +97,22 @@ abstract class Bench {
         return counts;
     }
 
+    // ---- what NAMES noted
+
+    static void seesPasses(AccountDay x, int[][] passes) {
+        due(36, "PASSES", x.count(13), passes.length);
+        for (int i = 0; i < passes.length; i++) {
+            for (int what = 0; what < 7; what++) due(27, "pass(" + i + ", " + what + ")", x.pass(i, what), passes[i][what]);
+        }
+    }
+
+    static void seesDeliveries(AccountDay x, int[][] told) {
+        due(36, "DELIVERIES", x.count(14), told.length);
+        for (int i = 0; i < told.length; i++) {
+            for (int what = 0; what < 6; what++) due(28, "delivery(" + i + ", " + what + ")", x.delivery(i, what), told[i][what]);
+        }
+    }
+
     // ---- exchanges in some state
 
     /** DAY 1: 4 MEN, 2 STOCKS; BARGAINS 0 (marked by its SELLER) and 2 are OPEN, 1 STANDS; one of most things. */

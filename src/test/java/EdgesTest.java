@@ -647,20 +647,6 @@ public final class EdgesTest extends Bench {
         seesDeliveries(x, new int[][] {{0, 0, 2, 1, 20, NONE}, {0, 0, 3, 4, 30, NONE}});
     }
 
-    private static void seesPasses(AccountDay x, int[][] passes) {
-        due(36, "PASSES", x.count(13), passes.length);
-        for (int i = 0; i < passes.length; i++) {
-            for (int what = 0; what < 7; what++) due(27, "pass(" + i + ", " + what + ")", x.pass(i, what), passes[i][what]);
-        }
-    }
-
-    private static void seesDeliveries(AccountDay x, int[][] told) {
-        due(36, "DELIVERIES", x.count(14), told.length);
-        for (int i = 0; i < told.length; i++) {
-            for (int what = 0; what < 6; what++) due(28, "delivery(" + i + ", " + what + ")", x.delivery(i, what), told[i][what]);
-        }
-    }
-
     /** 1 buys 3 of 0 and sells 8 to 2: he delivers 5 and passes 3 on; the TICKET is split once more at 2's BARGAINS. */
     private static void splitTickets() {
         AccountDay x = exchange(4, 99999, 99, 2);

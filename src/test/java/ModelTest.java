@@ -16,7 +16,9 @@ public final class ModelTest {
         "late 10+stock", "late 1001", "late -5", "late 33 if made>50", "in 7", "in 2000", "in -3", "in made/3",
         "good 1", "good marks", "good marks=1 and price<90", "good not seller=buyer-1 and marks>0",
         "good shares%2 or buyer=0", "div 0 if buyer=1", "div marks-3", "div not buyer=0", "div shares/0",
-        "good -(1+price/(shares-shares))", "late ((((((7))))))", "in men*10 if not(not(men<5))", "hour 2147*99999*99"};
+        "good -(1+price/(shares-shares))", "late ((((((7))))))", "in men*10 if not(not(men<5))", "hour 2147*99999*99",
+        "rate 700*stock-made", "hour 60-stock*20", "late 9*stock", "in 10*stock+made%7", "good stock or marks>1", "div stock=1",
+        "div made<60", "good made>60 if stock=2"};
     private static final String LETTERS = "rate hour if or and not ()+-*/%=<>019 made x";
 
     private final Random random;
