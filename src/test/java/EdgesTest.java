@@ -959,6 +959,27 @@ public final class EdgesTest extends Bench {
         due(8, "the rest is his", x.coin(1, 0), 500);
     }
 
+    /** 99 COIN go around, three rounds for each turn: MAN 0 has 33066 in the 1000th round, and no more in any. */
+    private static void allIsPaidInTheLastRound() {
+        for (int over = 0; over < 2; over++) {
+            AccountDay x = exchange(5, 0, 0, 1);
+            x.lend(0, 99);
+            x.lend(4, 1);
+            x.hold(3, 0, 1);
+            stands(x, 1, 0, 99, 9999);
+            stands(x, 102, 0, 99, 9999);
+            stands(x, 200, 0, 99, 335 + over);
+            stands(x, 304, 0, 1, 1);
+            due(26, "how many become DOWN", x.run(13), 2 + over);
+            due(29, "DUES of 0", x.settled(0, 0), 33066 + 99 * over);
+            due(29, "what he paid", x.settled(0, 1), 33066);
+            due(29, "what he got by then", x.settled(0, 2), 32967);
+            due(29, "what 2 paid by then", x.settled(2, 1), 32967);
+            due(8, "COIN of 2", x.coin(2, 0), 99);
+            due(7, "whether 0 is UP", x.look(0, 0), 1 - over);
+        }
+    }
+
     private static void partsAreCut() {
         AccountDay x = exchange(4, 0, 0, 1);
         x.lend(3, 100);
@@ -1642,6 +1663,23 @@ public final class EdgesTest extends Bench {
         return x;
     }
 
+    /** NAMES were, SETTLING wasn't yet. */
+    private static void imagesBetweenNamesAndSettling() {
+        AccountDay x = exchange(3, 9999, 7, 1);
+        stands(x, 102, 0, 5, 60);
+        x.run(12);
+        due(37, "the open DAY", x.image(), 12);
+        x.run(2);
+        due(29, "by then it was", x.settled(2, 0), 300);
+        due(38, "back to it", x.back(), 12);
+        due(27, "NAMES were", x.pass(0, 1), 2);
+        due(28, "NAMES were", x.delivery(0, 1), 1);
+        due(29, "SETTLING wasn't yet", x.settled(2, 0), 0);
+        due(44, "it is MISSING", x.status(MISSING), 1);
+        x.run(1);
+        due(29, "it is once more", x.settled(2, 0), 300);
+    }
+
     private static void imagesKeepTheLastMan() {
         AccountDay x = crowd();
         due(7, "9 is DOWN", x.look(9, 0), 0);
@@ -1867,6 +1905,7 @@ public final class EdgesTest extends Bench {
         coinAtTheEdges();
         allOfThemBecomeDown();
         paidByWhatWasPaid();
+        allIsPaidInTheLastRound();
         partsAreCut();
         partsDoNotWrap();
         whatIsVoidByOneWhoIsDown();
@@ -1912,6 +1951,7 @@ public final class EdgesTest extends Bench {
     private static void images() {
         counts();
         imagesKeepAll();
+        imagesBetweenNamesAndSettling();
         imagesKeepTheLastMan();
         imagesOfAnEmptyExchange();
         whatAnImageDoesNotKeep();
